@@ -174,10 +174,13 @@ public final class BeltMarks {
         }
         history.note(belt);
         int done = 0;
-        int at = 0;
-        while (at < pad.length && follow(at) >= 0) {
-            done++;
-            at = pad.nextOrder(at);
+        for (int at = 0; at < pad.length; at++) {
+            if (pad.isOrder(at)) {
+                if (follow(at) < 0) {
+                    break;
+                }
+                done++;
+            }
         }
         pad.empty();
         return recorded(done);
@@ -761,22 +764,18 @@ public final class BeltMarks {
             return sign >= '0' && sign <= '9';
         }
 
+        /** Whether an order of a text without a fault begins at a place. */
+        boolean isOrder(int at) {
+            return at == 0 || signAt(at - 1) == ';';
+        }
+
         /** The number that begins at a place of a text without a fault. */
         int numberAt(int start) {
             int number = 0;
-            for (int at = start; isDigit(signAt(at)) && at < length; at++) {
+            for (int at = start; at < length && isDigit(signAt(at)); at++) {
                 number = 10 * number + (signAt(at) - '0');
             }
             return number;
-        }
-
-        /** Where the order behind the one at a place begins; at least the length if there is none. */
-        int nextOrder(int start) {
-            int at = start;
-            while (at < length && signs[at] != ';') {
-                at++;
-            }
-            return at + 1;
         }
     }
 }

@@ -1,8 +1,13 @@
+import java.util.Arrays;
+
 /** Promises 17 to 19: undo, save, restore. */
 public final class GoingBackTest {
     public static void main(String[] args) {
         undoGoesBackSixChanges();
         undoRestoresEverything();
+        undoGoesBackAheadOfEachChange();
+        reportsComeBack();
+        marksComeBack();
         everyChangeIsRecorded();
         othersAreNotRecorded();
         undoLeavesPadAndSlots();
@@ -58,6 +63,7 @@ public final class GoingBackTest {
             marks.set(BeltMarks.SPEED, speed);
             Due.is("changes", marks.count(23), Math.min(speed + 1, 6));
         }
+        Due.is("an error drops none", marks.set(BeltMarks.SPEED, 10), BeltMarks.BAD_VALUE);
         for (int left = 5; left >= 0; left--) {
             Due.is("undo", marks.undo(), left);
             Due.is("speed", marks.count(14), left + 2);
@@ -98,6 +104,65 @@ public final class GoingBackTest {
         same("undo of restore", everything(marks), later);
         marks.undo();
         same("undo of pass again", everything(marks), before);
+    }
+
+    /** Each change behind another one, so that the state ahead of it is nowhere kept yet. */
+    private static void undoGoesBackAheadOfEachChange() {
+        BeltMarks marks = busy();
+        marks.save(0);
+        for (int change = 0; change < 6; change++) {
+            marks.set(BeltMarks.NEAR, change + 3);
+            int[] before = everything(marks);
+            switch (change) {
+                case 0: Due.is("turn", marks.turn(1, 20) >= 0 ? 1 : 0, 1); break;
+                case 1: Due.is("pass", marks.pass(9) >= 0 ? 1 : 0, 1); break;
+                case 2: Due.is("arrive", marks.arrive(5) >= 0 ? 1 : 0, 1); break;
+                case 3: Due.type(marks, "w9;s1"); Due.is("carryOut", marks.carryOut(), 2); break;
+                case 4: Due.is("restore", marks.restore(0), marks.count(0)); break;
+                default: marks.set(BeltMarks.FEED, 9); break;
+            }
+            Due.isTrue("change " + change + " is one", !Arrays.equals(everything(marks), before));
+            marks.undo();
+            same("undo of change " + change, everything(marks), before);
+        }
+    }
+
+    private static void reportsComeBack() {
+        BeltMarks marks = new BeltMarks();
+        marks.arrive(10);
+        marks.pass(7);
+        marks.save(0);
+        marks.pass(50);
+        marks.set(BeltMarks.LATE, 5);
+        marks.set(BeltMarks.SPEED, 9);
+        marks.arrive(10);
+        marks.pass(3);
+        Due.is("a later report: comes", marks.report(0, 0), 5);
+        Due.is("a later report: excess", marks.report(0, 1), 7);
+        marks.restore(0);
+        Due.is("restored: comes", marks.report(0, 0), 2);
+        Due.is("restored: excess", marks.report(0, 1), 1);
+        Due.is("restored: no mark in 14 ticks", marks.ifPass(14, 4), 0);
+        Due.is("restored: a mark in 15 ticks", marks.ifPass(15, 4), 1);
+        marks.undo();
+        Due.is("undone: comes", marks.report(0, 0), 5);
+        Due.is("undone: excess", marks.report(0, 1), 7);
+    }
+
+    private static void marksComeBack() {
+        BeltMarks marks = new BeltMarks();
+        marks.arrive(10);
+        marks.pass(22);
+        marks.save(0);
+        marks.pass(77);
+        marks.set(BeltMarks.PLACE, 2);
+        marks.arrive(10);
+        marks.pass(21);
+        Due.is("another mark", marks.box(0, 3), 1003);
+        marks.restore(0);
+        Due.is("the mark restored", marks.box(0, 3), 1006);
+        marks.undo();
+        Due.is("the restoring undone", marks.box(0, 3), 1003);
     }
 
     private static void everyChangeIsRecorded() {

@@ -90,6 +90,10 @@ public final class LookTest {
         for (int what : wrong) {
             Due.is("report(1, " + what + ")", marks.report(1, what), BeltMarks.BAD_VALUE);
         }
+        marks.pass(3);
+        Due.is("the second is the first", marks.report(0, 0), 1);
+        Due.is("its excess", marks.report(0, 1), 2);
+        Due.is("no second", marks.report(1, 0), BeltMarks.NO_SUCH);
     }
 
     private static void countTellsEveryNumber() {

@@ -270,6 +270,9 @@ public final class TickTest {
         Due.is("bad", marks.count(4), 1);
         Due.is("not good", marks.count(3), 0);
         Due.is("not missed", marks.count(5), 0);
+        marks.arrive(4);
+        Due.is("the next box: not marked twice", marks.box(1, 4), 0);
+        Due.is("the next box: not marked", marks.box(1, 3), BeltMarks.NONE);
     }
 
     private static void boxesLeaveWithTheirFates() {

@@ -9,6 +9,7 @@ public final class WhatIfTest {
         neededSlackIsTheLeast();
         neededSlackIsUsedUpAndFed();
         neededSlackMindsTheMostSlack();
+        neededSlackIsAtMost60();
         neededSlackRefusesWrongArguments();
         nothingChanges();
         Due.end();
@@ -178,6 +179,25 @@ public final class WhatIfTest {
         marks.set(BeltMarks.SLACK, 5);
         Due.is("in the next tick", marks.neededSlack(1), 20);
         Due.is("and behind it", marks.neededSlack(99), 20);
+    }
+
+    private static void neededSlackIsAtMost60() {
+        BeltMarks marks = new BeltMarks();
+        marks.set(BeltMarks.SPEED, 5);
+        marks.set(BeltMarks.SLACK, 60);
+        for (int i = 0; i < 4; i++) {
+            marks.arrive(4);
+            marks.pass(1);
+        }
+        marks.pass(8);
+        Due.is("due in the next tick", marks.plan(0), 1004);
+        Due.is("due in the fourth tick", marks.plan(3), 1019);
+        marks.set(BeltMarks.LABEL, 15);
+        Due.is("4 times 15, fed 3", marks.neededSlack(4), 57);
+        marks.set(BeltMarks.LABEL, 16);
+        Due.is("4 times 16, fed 3", marks.neededSlack(4), BeltMarks.NONE);
+        marks.set(BeltMarks.FEED, 2);
+        Due.is("4 times 16, fed 6", marks.neededSlack(4), 58);
     }
 
     private static void neededSlackRefusesWrongArguments() {
