@@ -124,8 +124,9 @@ public final class BeltMarks {
         if (!canTry(ticks)) {
             return BAD_VALUE;
         }
-        // More slack never makes a plan starve that less would have fed, so the slacks that
-        // starve one lie below all the others; this finds how many they are.
+        // Where no plan starves with some slack, none starves with more, as there is never less
+        // of it then: the slacks that are too low lie below all the others, and this finds how
+        // many they are.
         int tooLow = 0;
         for (int step = 32; step > 0; step /= 2) {
             int slack = tooLow + step - 1;

@@ -1,10 +1,9 @@
-import java.util.Arrays;
-
 /** Promises 17 to 19: undo, save, restore. */
 public final class GoingBackTest {
     public static void main(String[] args) {
         undoGoesBackSixChanges();
         undoRestoresEverything();
+        undoRestoresEverythingOfMore();
         undoGoesBackAheadOfEachChange();
         reportsComeBack();
         marksComeBack();
@@ -30,33 +29,6 @@ public final class GoingBackTest {
         return marks;
     }
 
-    /** All that can be asked, but for the pad and the history. */
-    private static int[] everything(BeltMarks marks) {
-        int[] all = new int[22 + 48 + 16 + 32 + 7];
-        int at = 0;
-        for (int what = 0; what < 22; what++) {
-            all[at++] = marks.count(what);
-        }
-        for (int i = 0; i < 48; i++) {
-            all[at++] = marks.box(i / 6, i % 6);
-        }
-        for (int i = 0; i < 16; i++) {
-            all[at++] = marks.plan(i);
-            all[at++] = marks.report(i, 0);
-            all[at++] = marks.report(i, 1);
-        }
-        for (int what = 0; what < 7; what++) {
-            all[at++] = marks.ifPass(40, what);
-        }
-        return all;
-    }
-
-    private static void same(String when, int[] got, int[] want) {
-        for (int i = 0; i < want.length; i++) {
-            Due.is(when + ": answer " + i, got[i], want[i]);
-        }
-    }
-
     private static void undoGoesBackSixChanges() {
         BeltMarks marks = new BeltMarks();
         for (int speed = 0; speed < 9; speed++) {
@@ -79,51 +51,56 @@ public final class GoingBackTest {
 
     private static void undoRestoresEverything() {
         BeltMarks marks = busy();
-        int[] before = everything(marks);
+        String before = Belts.state(marks);
         marks.pass(60);
         marks.undo();
-        same("undo of pass", everything(marks), before);
+        Due.same("undo of pass", Belts.state(marks), before);
         marks.turn(1, 20);
         marks.undo();
-        same("undo of turn", everything(marks), before);
+        Due.same("undo of turn", Belts.state(marks), before);
         for (int setting = 0; setting < 8; setting++) {
             marks.set(setting, 5);
             marks.undo();
         }
-        same("undo of set", everything(marks), before);
+        Due.same("undo of set", Belts.state(marks), before);
+    }
+
+    private static void undoRestoresEverythingOfMore() {
+        BeltMarks marks = busy();
+        String before = Belts.state(marks);
         Due.type(marks, "w9;s9;w9;b20;w1");
         Due.is("a text", marks.carryOut(), 5);
         marks.undo();
-        same("undo of carryOut", everything(marks), before);
+        Due.same("undo of carryOut", Belts.state(marks), before);
         marks.save(0);
         marks.pass(3);
-        int[] later = everything(marks);
+        String later = Belts.state(marks);
         marks.restore(0);
-        same("restore", everything(marks), before);
+        Due.same("restore", Belts.state(marks), before);
         marks.undo();
-        same("undo of restore", everything(marks), later);
+        Due.same("undo of restore", Belts.state(marks), later);
         marks.undo();
-        same("undo of pass again", everything(marks), before);
+        Due.same("undo of pass again", Belts.state(marks), before);
     }
 
     /** Each change behind another one, so that the state ahead of it is nowhere kept yet. */
     private static void undoGoesBackAheadOfEachChange() {
-        BeltMarks marks = busy();
-        marks.save(0);
         for (int change = 0; change < 6; change++) {
+            BeltMarks marks = busy();
+            marks.save(0);
             marks.set(BeltMarks.NEAR, change + 3);
-            int[] before = everything(marks);
+            String before = Belts.state(marks);
             switch (change) {
-                case 0: Due.is("turn", marks.turn(1, 20) >= 0 ? 1 : 0, 1); break;
-                case 1: Due.is("pass", marks.pass(9) >= 0 ? 1 : 0, 1); break;
-                case 2: Due.is("arrive", marks.arrive(5) >= 0 ? 1 : 0, 1); break;
+                case 0: Due.isTrue("turn", marks.turn(1, 20) >= 0); break;
+                case 1: Due.isTrue("pass", marks.pass(9) >= 0); break;
+                case 2: Due.isTrue("arrive", marks.arrive(5) >= 0); break;
                 case 3: Due.type(marks, "w9;s1"); Due.is("carryOut", marks.carryOut(), 2); break;
                 case 4: Due.is("restore", marks.restore(0), marks.count(0)); break;
                 default: marks.set(BeltMarks.FEED, 9); break;
             }
-            Due.isTrue("change " + change + " is one", !Arrays.equals(everything(marks), before));
+            Due.differs("change " + change, Belts.state(marks), before);
             marks.undo();
-            same("undo of change " + change, everything(marks), before);
+            Due.same("undo of change " + change, Belts.state(marks), before);
         }
     }
 
@@ -238,20 +215,20 @@ public final class GoingBackTest {
 
     private static void saveKeepsEverything() {
         BeltMarks marks = busy();
-        int[] before = everything(marks);
+        String before = Belts.state(marks);
         int ticks = marks.count(0);
         Due.is("save", marks.save(0), ticks);
-        same("behind save", everything(marks), before);
+        Due.same("behind save", Belts.state(marks), before);
         for (int setting = 0; setting < 8; setting++) {
             marks.set(setting, 5);
         }
         marks.pass(50);
         marks.arrive(20);
         Due.is("restore", marks.restore(0), ticks);
-        same("restore", everything(marks), before);
+        Due.same("restore", Belts.state(marks), before);
         marks.pass(70);
         Due.is("restore again", marks.restore(0), ticks);
-        same("restore again", everything(marks), before);
+        Due.same("restore again", Belts.state(marks), before);
         Due.is("changes", marks.count(23), 6);
     }
 

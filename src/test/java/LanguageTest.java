@@ -9,10 +9,11 @@ import java.util.regex.Pattern;
 public final class LanguageTest {
     private static final Path SOURCE = Path.of("src/main/java/BeltMarks.java");
     /** Words and signs that the rules leave out. */
-    private static final List<String> FORBIDDEN = List.of("\\bimport\\b", "\\bpackage\\b", "\\bthrows?\\b", "\\btry\\b",
-        "\\bcatch\\b", "\\bfinally\\b", "\\bsynchronized\\b", "\\bassert\\b", "->", "::", "@", "\\binstanceof\\b",
-        "\\bvar\\b", "\\bObject\\b", "\\bClass\\b", "\\bThread\\b", "Exact\\b", "\\b(float|double)\\b",
-        "System\\.(?!arraycopy\\b)", "Math\\.(?!(min|abs|floorDiv|floorMod)\\b)", "\\bwhile \\(true\\)", "\"");
+    private static final List<String> FORBIDDEN = List.of("\\bpackage\\b",
+        "\\bimport (?!java\\.util\\.(List|ArrayList|Arrays|Iterator);)", "\\bthrows?\\b", "\\btry\\b", "\\bcatch\\b",
+        "\\bfinally\\b", "\\bsynchronized\\b", "\\bassert\\b", "::", "\\bvar\\b", "\\bObject\\b", "\\bClass\\b",
+        "\\bThread\\b", "\\w+Exact\\b", "\\bSystem\\.(?!arraycopy\\b)", "\\bMath\\.(random|sqrt|pow)\\b",
+        "\\bwhile \\(true\\)", "\\bfor \\(;;\\)", "(?m)^(?!\\s*(case|default)\\b).*->");
     private static final int LONGEST_METHOD = 60;
     private static final int MOST_CLASSES = 12;
 

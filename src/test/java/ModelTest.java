@@ -3,8 +3,11 @@ import java.util.List;
 
 /** Long runs of calls, drawn by a fixed rule, on the class and on the model of the document. */
 public final class ModelTest {
-    private static final int RUNS = 600;
-    private static final int CALLS = 512;
+    private static final int RUNS = 4000;
+    /** Nothing is promised about an object behind so many calls. */
+    private static final int MOST_CALLS = 512;
+    private static final int CALLS_OF_A_STEP = 6;
+    private static final int CALLS_OF_A_LOOK = 24 + 8 * 6 + 20 * 3;
     private static final int[] ODD_NUMBERS = {-1, 0, 1, 99, 100, Integer.MIN_VALUE, Integer.MAX_VALUE, -1000, 64};
 
     private long seed;
@@ -38,19 +41,36 @@ public final class ModelTest {
         marks = new BeltMarks();
         model = new Model();
         calls = new ArrayList<>();
-        // Some runs pass many ticks a call, so that they come near the most ticks there are.
+        if (run % 20 == 0) {
+            comeNearTheLastTick();
+        }
         int longest = run % 10 == 0 ? 99 : run % 3 == 0 ? 12 : 4;
-        for (int i = 0; i < CALLS; i++) {
+        int most = MOST_CALLS - CALLS_OF_A_LOOK - CALLS_OF_A_STEP;
+        // Half of the runs end early, so that all is looked at in states of every age.
+        int until = run % 2 == 0 ? most : calls.size() + draw(most - calls.size());
+        while (calls.size() < until) {
             if (!step(longest)) {
                 System.out.println("run " + run + " differs behind " + calls.size() + " calls: "
                     + calls.subList(Math.max(0, calls.size() - 30), calls.size()));
                 return;
             }
-            if (i % 8 == 0 && !sameEverywhere()) {
-                System.out.println("run " + run + " stands differently behind " + calls.size() + " calls");
-                return;
-            }
         }
+        if (!sameEverywhere()) {
+            System.out.println("run " + run + " stands differently behind " + calls.size() + " calls");
+        }
+    }
+
+    /** 14 texts of 15 orders to pass 94 ticks: 19740 of 20000. */
+    private void comeNearTheLastTick() {
+        String text = "w94;".repeat(14) + "w94";
+        for (int i = 0; i < 14; i++) {
+            for (int from = 0; from < text.length(); from += 8) {
+                long characters = Due.packed(text.substring(from, Math.min(from + 8, text.length())));
+                same("put", marks.put(characters), model.put(characters));
+            }
+            same("carryOut()", marks.carryOut(), model.carryOut());
+        }
+        same("count(0)", marks.count(0), 19740);
     }
 
     private boolean same(String call, long got, long want) {
