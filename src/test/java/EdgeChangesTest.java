@@ -1,3 +1,5 @@
+import java.util.function.ToIntFunction;
+
 /** Edges that promises 1 to 5 name: a new object, set, arrive, turn, pass. */
 public final class EdgeChangesTest {
     private static final int[] LOWEST = {0, 0, 0, 0, 1, 1, 0, 0};
@@ -25,6 +27,7 @@ public final class EdgeChangesTest {
         passReturnsHowManyLeave();
         passWantsAtMost20000Ticks();
         passCountsTheTicksThatStand();
+        theseAreChanges();
         Due.end();
     }
 
@@ -134,7 +137,7 @@ public final class EdgeChangesTest {
     }
 
     private static void arriveWantsALengthFrom4To30() {
-        Due.says("BAD_VALUE if length is out of range; TOO_MANY if there are 8 boxes on the belt");
+        Due.says("`length`: 4 to 30 Returns its number among the boxes on the belt; BAD_VALUE if length is out of range");
         int[] wrong = {3, 31, 2, 32, 0, -1, -4, Integer.MIN_VALUE, Integer.MAX_VALUE};
         for (int length : wrong) {
             BeltMarks marks = new BeltMarks();
@@ -292,7 +295,7 @@ public final class EdgeChangesTest {
     }
 
     private static void turnWantsALengthFrom4To30() {
-        Due.says("BAD_VALUE if length is out of range; NOT_POSSIBLE if there would be less than 1 between it and another one");
+        Due.says("`length`: 4 to 30 Returns its front, and 1000; NO_SUCH if there is no such box; BAD_VALUE if length is out of range");
         BeltMarks marks = new BeltMarks();
         marks.arrive(10);
         int[] wrong = {3, 31, 2, 32, 0, -1, -10, Integer.MIN_VALUE, Integer.MAX_VALUE};
@@ -350,7 +353,7 @@ public final class EdgeChangesTest {
     }
 
     private static void passTakes1To99Ticks() {
-        Due.says("BAD_VALUE if ticks is out of range; TOO_MANY if more than 20000 ticks would have passed");
+        Due.says("`ticks`: 1 to 99 Returns how many boxes leave in them; BAD_VALUE if ticks is out of range");
         int[] wrong = {0, 100, -1, 101, Integer.MIN_VALUE, Integer.MAX_VALUE};
         BeltMarks marks = new BeltMarks();
         for (int ticks : wrong) {
@@ -432,5 +435,28 @@ public final class EdgeChangesTest {
         Due.is("restore", marks.restore(0), 0);
         Due.is("pass(99)", marks.pass(99), 0);
         Due.is("ticks", marks.count(0), 99);
+    }
+
+    private static void change(String call, ToIntFunction<BeltMarks> made, int due) {
+        BeltMarks marks = new BeltMarks();
+        marks.arrive(10);
+        marks.pass(8);
+        String before = Belts.state(marks);
+        Due.is(call, made.applyAsInt(marks), due);
+        Due.is(call + ": changes", marks.count(23), 3);
+        Due.differs(call, Belts.state(marks), before);
+        Due.is(call + ": undo", marks.undo(), 2);
+        Due.same(call + ": undone", Belts.state(marks), before);
+    }
+
+    private static void theseAreChanges() {
+        Due.says("Changes a setting (reports that are on their way come when they were to come). This is a change.");
+        change("set(LATE, 0)", x -> x.set(BeltMarks.LATE, 0), 2);
+        Due.says("A box arrives, with its front at 0. This is a change.");
+        change("arrive(4)", x -> x.arrive(4), 1);
+        Due.says("(A box that was seen is not seen again.) This is a change.");
+        change("turn(0, 11)", x -> x.turn(0, 11), 1024);
+        Due.says("Lets ticks pass. This is a change.");
+        change("pass(29)", x -> x.pass(29), 1);
     }
 }

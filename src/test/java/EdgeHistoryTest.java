@@ -374,7 +374,7 @@ public final class EdgeHistoryTest {
     }
 
     private static void saveWantsASlot() {
-        Due.says("BAD_VALUE if there is no such slot");
+        Due.says("`slot`: 0 or 1 Returns how many ticks have passed; BAD_VALUE if there is no such slot.");
         BeltMarks marks = new BeltMarks();
         for (int slot : WRONG_SLOTS) {
             Due.is("save(" + slot + ")", marks.save(slot), BeltMarks.BAD_VALUE);
@@ -472,7 +472,7 @@ public final class EdgeHistoryTest {
     }
 
     private static void restoreWantsASlot() {
-        Due.says("Returns how many ticks have passed then; BAD_VALUE if there is no such slot");
+        Due.says("`slot`: 0 or 1 Returns how many ticks have passed then; BAD_VALUE if there is no such slot");
         BeltMarks marks = new BeltMarks();
         for (int slot : WRONG_SLOTS) {
             Due.is("restore(" + slot + "), nothing saved", marks.restore(slot), BeltMarks.BAD_VALUE);

@@ -12,6 +12,7 @@ public final class EdgeLookTest {
         boxWantsANumber();
         aPlanIsToldWith1000();
         planWantsAPlan();
+        plansAreMoreThanBoxes();
         aReportComesInTheNextTick();
         reportWantsAReport();
         reportsMoveUp();
@@ -204,6 +205,44 @@ public final class EdgeLookTest {
                 Due.is(plans + " plans: plan(" + place + ")", marks.plan(place), 1060 - 5 * (plans - 1 - place));
             }
         }
+    }
+
+    private static void plansAreMoreThanBoxes() {
+        Due.says("Returns a plan, in the order in which they were made.");
+        // A plan outlives its box: eight boxes one behind the other, the first of which leaves at
+        // 104 with a plan for 113, and a ninth one that is seen 7 places later.
+        BeltMarks marks = new BeltMarks();
+        int[] settings = {5, 5, 0, 20, 1, 20, 1, 2};
+        for (int setting = 0; setting < 8; setting++) {
+            marks.set(setting, settings[setting]);
+        }
+        for (int i = 0; i < 8; i++) {
+            marks.arrive(4);
+            if (i < 7) {
+                marks.pass(1);
+            }
+        }
+        marks.set(BeltMarks.SPEED, 9);
+        marks.pass(6);
+        marks.set(BeltMarks.SPEED, 5);
+        Due.is("the first one leaves", marks.pass(3), 1);
+        Due.is("eight plans of seven boxes", marks.count(12) * 10 + marks.count(1), 87);
+        Due.is("the ninth one", marks.arrive(4), 7);
+        Due.is("the ninth one, turned", marks.turn(7, 30), 1013);
+        marks.set(BeltMarks.SPEED, 7);
+        marks.set(BeltMarks.LATE, 0);
+        marks.pass(1);
+        int[] due = {2, 11, 20, 29, 34, 35, 40, 41, 60};
+        Due.is("plans", marks.count(12), due.length);
+        for (int place = 0; place < due.length; place++) {
+            Due.is("plan(" + place + ")", marks.plan(place), 1000 + due[place]);
+        }
+        Due.is("no tenth", marks.plan(9), BeltMarks.NO_SUCH);
+        marks.set(BeltMarks.SPEED, 2);
+        marks.pass(1);
+        Due.is("one is done", marks.count(12), 8);
+        Due.is("the next one is the first", marks.plan(0), 1009);
+        Due.is("the last one", marks.plan(7), 1058);
     }
 
     private static void aReportComesInTheNextTick() {

@@ -8,6 +8,8 @@ public final class EdgeTermsTest {
     private static final int[] AT_FIRST = {3, 2, 2, 4, 6, 20, 1, 2};
 
     public static void main(String[] args) {
+        anObjectIsUsedForAtMost512Calls();
+        aFrontCanComeFarBelow0();
         errorsHaveTheirNumbers();
         theFirstErrorThatAppliesIsReturned();
         errorsOfChangesChangeNothing();
@@ -30,6 +32,31 @@ public final class EdgeTermsTest {
         thoseBehindMoveUp();
         theSlackIs20AtFirst();
         Due.end();
+    }
+
+    private static void anObjectIsUsedForAtMost512Calls() {
+        Due.says("An object is used for at most 512 calls after it has been made");
+        BeltMarks marks = new BeltMarks();
+        for (int call = 1; call <= 255; call++) {
+            Due.is("set, call " + (2 * call - 1), marks.set(BeltMarks.FEED, call % 10), call == 1 ? 1 : (call - 1) % 10);
+            Due.is("pass, call " + 2 * call, marks.pass(99), 99 * call <= 20000 ? 0 : BeltMarks.TOO_MANY);
+        }
+        Due.is("undo, call 511", marks.undo(), 5);
+        Due.is("count, call 512", marks.count(0), 202 * 99);
+    }
+
+    private static void aFrontCanComeFarBelow0() {
+        Due.says("Numbers that can be below 0 are returned with more, as told.");
+        BeltMarks marks = new BeltMarks();
+        marks.arrive(4);
+        // 12 orders a text, each two of them a place back; 10 calls a text with those of Due.type().
+        String text = "t0=5;t0=4;".repeat(5) + "t0=5;t0=4";
+        for (int texts = 1; texts <= 50; texts++) {
+            Due.type(marks, text);
+            Due.is("carryOut", marks.carryOut(), 12);
+        }
+        Due.is("front", marks.box(0, 0), 1000 - 6 * 50);
+        Due.is("turn", marks.turn(0, 30), 1000 - 6 * 50 + 13);
     }
 
     private static void errorsHaveTheirNumbers() {

@@ -470,7 +470,7 @@ public final class EdgeWhatIfTest {
     }
 
     private static void neededSlackTakes1To99Ticks() {
-        Due.says("Returns the slack; BAD_VALUE if ticks is out of range; NONE if there is none.");
+        Due.says("`ticks`: 1 to 99 Returns the slack; BAD_VALUE if ticks is out of range; NONE if there is none.");
         BeltMarks marks = Belts.slow(0);
         marks.set(BeltMarks.SPEED, 0);
         for (int ticks : WRONG_TICKS) {
